@@ -23,7 +23,7 @@ public final class HeadTest {
                 "unname() = 16", "told(6) = 0", "unname() = 0");
         Calls.run("11 name: what is not as told",
                 "HEAD z = 0", "NAME q",
-                "REFUSED name(97, 0) = OUTSIDE", "REFUSED name(97, -1) = OUTSIDE", "REFUSED name(97, 9) = OUTSIDE",
+                "REFUSED name(97, 0) = OUTSIDE", "REFUSED name(97, -1) = OUTSIDE", "REFUSED name(7016996765293437281, 9) = OUTSIDE",
                 "REFUSED name(97, MOST) = OUTSIDE", "REFUSED name(31, 1) = OUTSIDE", "REFUSED name(127, 1) = OUTSIDE",
                 "REFUSED name(97, 2) = OUTSIDE", "REFUSED name(8049, 2) = OUTSIDE", "REFUSED name(-1, 8) = OUTSIDE",
                 "name(8033, 1) = 2", "name(126, 1) = 3", "name(32, 1) = 4", "name(7016996765293437281, 8) = 12",
@@ -68,7 +68,7 @@ public final class HeadTest {
         Calls.run("15 pass",
                 "HEAD a = 0", "unname() = 1", "REFUSED pass() = STATE", "PASS the = 1", "REFUSED pass() = STATE",
                 "NAME THE", "REFUSED pass() = STATE", "NAME a b", "REFUSED pass() = STATE", "NAME a1",
-                "REFUSED pass() = STATE", "NAME a-", "REFUSED pass() = STATE", "PASS th = 2", "PASS thee = 3",
+                "REFUSED pass() = STATE", "NAME 1a", "REFUSED pass() = STATE", "NAME a-", "REFUSED pass() = STATE", "PASS th = 2", "PASS thee = 3",
                 "PASS Zz = 4", "NAME zZ", "REFUSED pass() = STATE", "NAME of", "REFUSED pass() = FULL", "NAME o1",
                 "REFUSED pass() = STATE", "told(7) = 4", "told(8) = 1");
     }
@@ -94,6 +94,9 @@ public final class HeadTest {
                 "compare(4, 4, 0) = -100", "compare(4, 4, 1) = -100", "compare(4, 4, 2) = OUTSIDE",
                 "compare(4, 4, -1) = OUTSIDE", "compare(9, 4, 0) = UNKNOWN", "compare(4, 9, 0) = UNKNOWN",
                 "compare(-1, 4, 5) = UNKNOWN");
+        Calls.run("18 compare: a number is ahead of a letter and behind a sign, however great it is",
+                "HEAD a200 = 0", "HEAD ab = 1", "HEAD a~ = 2", "HEAD a!5 = 3", "HEAD a!b = 4", "HEAD 500 = 5",
+                "compare(0, 1, 0) = -101", "compare(0, 2, 0) = -99", "compare(3, 4, 1) = -101", "compare(5, 0, 0) = -101");
         Calls.run("18 compare: numbers of many digits",
                 "HEAD 9999999999999999 = 0", "HEAD 1000000000000000 = 1", "HEAD 0000000000000002 = 2", "HEAD 3 = 3",
                 "compare(0, 1, 0) = -99", "compare(2, 3, 0) = -101", "compare(3, 1, 0) = -101", "compare(1, 2, 1) = -99");

@@ -10,6 +10,7 @@ public final class IndexTest {
         entryOrder();
         placeKinds();
         runs();
+        runsByGaps();
         runsThatGo();
         near();
         chief();
@@ -69,6 +70,10 @@ public final class IndexTest {
                 "build(0, 0, 0) = 8", "PATHS = 3 4 0 1 1.3 1.3.4 1.2 1.4", "unname() = 3", "sortAs(1) = 1",
                 "build(0, 0, 0) = 8", "PATHS = 3 4 1 1.3 1.3.4 1.2 1.4 0",
                 "build(1, 0, 0) = 8", "PATHS = 3 4 0 1 1.3 1.3.4 1.2 1.4");
+        Calls.run("28 entries are in another order when heads are",
+                "HEAD a = 0", "HEAD b = 1", "mark(0, 0, 0, NONE, NONE, 0) = 0", "mark(0, 0, 1, NONE, NONE, 0) = 1",
+                "build(0, 0, 0) = 2", "PATHS = 0 1", "NAME z", "rename(0) = 1", "build(0, 0, 0) = 2", "PATHS = 1 0",
+                "SORT 0 A", "build(0, 0, 0) = 2", "PATHS = 0 1", "first() = 0", "NAME z", "first() = NONE");
     }
 
     private static void placeKinds() {
@@ -92,6 +97,20 @@ public final class IndexTest {
                 "mark(8, 1, 0, NONE, NONE, 0) = 3", "mark(12, 2, 0, NONE, NONE, 0) = 4", "mark(6, 2, 0, 1, NONE, 0) = 5",
                 "mark(2, 1, 1, NONE, NONE, 0) = 6",
                 "build(0, 0, 0) = 3", "PLACES 0 = R1-1 R3-5", "UNMATCHED = 2 5 6", "PLACES 1 = R2-2", "PLACES 2 = R0-0");
+    }
+
+    private static void runsByGaps() {
+        run("29 place: marks are taken by gaps, whatever their numbers are",
+                "mark(30, 2, 0, NONE, NONE, 0) = 0", "mark(26, 1, 0, NONE, NONE, 0) = 1", "mark(10, 2, 0, NONE, NONE, 0) = 2",
+                "mark(16, 1, 0, NONE, NONE, 0) = 3", "mark(20, 2, 0, NONE, NONE, 0) = 4", "mark(4, 1, 0, NONE, NONE, 0) = 5",
+                "build(0, 0, 0) = 1", "PLACES 0 = R1-4 R7-9 R12-14", "UNMATCHED = ", "build(0, 0, 0) = 1",
+                "PLACES 0 = R1-4 R7-9 R12-14");
+        run("29 place: an OPEN of no run comes ahead of the POINTS behind it",
+                on(2, 1, 0, 0), on(4, 0, 0, 1), on(5, 0, 0, 2), on(6, 1, 0, 3), on(8, 2, 0, 4), on(9, 1, 0, 5), on(10, 0, 0, 6),
+                "build(0, 0, 0) = 1", "PLACES 0 = R2-2 R4-4 R5-5 R6-8 R9-9 R10-10", "UNMATCHED = 0 5");
+        run("29 place: an OPEN of one entry and a CLOSE of another make no run",
+                on(2, 1, 0, 0), on(4, 2, 1, 1), on(5, 0, 1, 2), "build(0, 0, 0) = 2", "PLACES 0 = R2-2", "PLACES 1 = R4-4 R5-5",
+                "UNMATCHED = 0 1");
     }
 
     private static void runsThatGo() {
@@ -202,7 +221,8 @@ public final class IndexTest {
                 on(9, 1, 0, 0), on(5, 2, 0, 1), on(4, 1, 1, 2), on(6, 2, 1, 3), on(6, 2, 2, 4), "unmatched() = 0",
                 "unmatchedAt(0) = UNKNOWN", "build(0, 0, 0) = 3", "unmatched() = 3", "unmatchedAt(0) = 0",
                 "unmatchedAt(1) = 1", "unmatchedAt(2) = 4", "unmatchedAt(3) = UNKNOWN", "unmatchedAt(-1) = UNKNOWN",
-                "unmatchedAt(MOST) = UNKNOWN", "drop(0) = 1", "unmatched() = 3", "build(0, 0, 0) = 3", "UNMATCHED = 1 4");
+                "unmatchedAt(MOST) = UNKNOWN", "drop(0) = 1", "unmatched() = 3", "build(0, 0, 0) = 3", "UNMATCHED = 1 4",
+                "build(0, 0, 0) = 3", "UNMATCHED = 1 4");
     }
 
     private static void changed() {
@@ -226,6 +246,11 @@ public final class IndexTest {
                 "see(0, 2, 1, false) = 0", "build(0, 0, 0) = 1", "mark(0, 0, 2, 3, NONE, 0) = 1", "build(0, 0, 0) = 2",
                 "changed() = 2", "mark(0, 0, 2, 4, NONE, 0) = 2", "build(0, 0, 0) = 3", "changed() = 1",
                 "NAME zz", "rename(3) = 1", "build(0, 0, 0) = 3", "changed() = 0");
+        run("36 changed: places and sees that are fewer, a place of another kind",
+                on(1, 0, 0, 0), on(3, 0, 0, 1), "see(0, 1, 0, false) = 2", "see(0, 1, 2, false) = 3", "build(0, 0, 0) = 2",
+                "drop(1) = 1", "build(0, 0, 0) = 2", "changed() = 1", "undo() = 39", "build(0, 0, 0) = 2", "changed() = 1",
+                "drop(3) = 1", "build(0, 0, 0) = 2", "changed() = 1", "SEES 1 = see0/good", "drop(0) = 1", on(1, 5, 0, 4),
+                "build(0, 0, 0) = 2", "changed() = 1", "PLACES 0 = P1 R3-3");
         run("36 changed: the last place of a run",
                 on(3, 1, 0, 0), on(5, 2, 0, 1), "build(0, 0, 0) = 1", "drop(1) = 1", on(6, 2, 0, 2), "build(0, 0, 0) = 1",
                 "changed() = 1", "PLACES 0 = R3-6");

@@ -11,7 +11,7 @@ public final class ModelTest {
     private static final int RUNS = 1500;
     private static final int[] EDGES = {-9, -1, 0, 1, 2, 8, 49, 50, 99, 100, 300, 999999, Integer.MAX_VALUE, Integer.MIN_VALUE};
     private static final String[] NAMES = {"a", "b", "A", "an", "the", "the a", "The b", "an a", "a b", "ab", "a 1", "a 01", "a1 2",
-            "a12", "-", "a-b", "9", "10", "010", "zz top", "Zz", "x", "x y z", "abcdefghijklmnop", " a", "a ", "a  b", "~"};
+            "a12", "a200", "-", "a-b", "9", "10", "010", "zz top", "Zz", "x", "x y z", "abcdefghijklmnop", " a", "a ", "a  b", "~"};
 
     /** How often a call is made, of the calls that a run is mostly made of. */
     private static final Map<String, Integer> WEIGHTS = new HashMap<>();
