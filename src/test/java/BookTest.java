@@ -132,7 +132,7 @@ public final class BookTest {
                 "FILL 20", "flow(2) = 10", "labelled(1, 1, 0) = 0", "labelled(1, 10, 0) = 9", "labelled(1, 11, 0) = NONE",
                 "labelled(1, 0, 0) = NONE", "labelled(0, 1, 0) = NONE", "labelled(2, 1, 65) = NONE",
                 "part(3, 0, 1, 0) = 1", "part(5, 1, 2, 0) = 2", "part(6, 2, 2, 66) = 3", "part(8, 2, 2, 67) = 4",
-                "labelled(1, 2, 99) = 1", "labelled(1, 4, 0) = NONE", "labelled(0, 2, 0) = 4", "labelled(0, 3, 0) = NONE",
+                "labelled(1, 2, 99) = 1", "labelled(1, 4, 0) = NONE", "labelled(0, 2, 0) = 4", "labelled(0, 2, 77) = 4", "labelled(0, 3, 0) = NONE",
                 "labelled(2, 2, 66) = 6", "labelled(2, 3, 66) = 7", "labelled(2, 4, 66) = NONE", "labelled(2, 2, 67) = 8",
                 "labelled(2, 2, 68) = NONE", "labelled(1, -1, 0) = NONE", "labelled(1, MOST, 0) = NONE",
                 "labelled(-1, 1, 0) = OUTSIDE", "labelled(3, 1, 0) = OUTSIDE");
