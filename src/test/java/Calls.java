@@ -1,7 +1,5 @@
-import java.lang.reflect.InvocationTargetException;
-import java.lang.reflect.Method;
 import java.util.ArrayList;
-import java.util.HashMap;
+import java.util.HashSet;
 import java.util.List;
 import java.util.Map;
 import java.util.Set;
@@ -11,7 +9,9 @@ import java.util.Set;
  *
  * <pre>
  * put(0, 1) = 1             a call and its answer: a number, or the name of a constant or fault
- * REFUSED put(9, 1) = FULL  likewise, and the call may change nothing (but fault(), if it names faults)
+ * REFUSED put(9, 1) = FULL  likewise, and the call may change nothing (but fault(), if it names faults, to what is due)
+ * COUNT 50 see(0, 1, 2, true) = 0   the call so many times: its answers go up by one, from this one on
+ * HEADS 30                  so many heads are made: a, b, c ..
  * FILL 40                   so many words (0, 1, 2 ..) are put behind all
  * NAME ab c                 THE NAME becomes "ab c"
  * HEAD ab c = 0             likewise, then head()
@@ -32,20 +32,15 @@ final class Calls {
     private static final Set<String> NAMES_FAULTS = Set.of("move", "show", "taken", "match");
     private static final Map<String, Integer> ANSWERS = Map.of("UNKNOWN", -1, "OUTSIDE", -2, "STATE", -3, "FULL", -4,
             "NONE", -9, "NULL", -11, "CAST", -12, "INDEX", -13, "SIZE", -14);
-    private static final Map<String, Method> METHODS = new HashMap<>();
+    /** Calls that change nothing but fault(), and what it tells behind them. */
+    private static final String[] AHEAD = {"move(0, 0, 0)", "move(0, 301, 0)", "move(0, -1, 0)"};
+    private static final int[] AHEAD_FAULTS = {0, 3, 4};
+    private static final Set<String> refusals = new HashSet<>();
     private static int wrong = 0;
     private static int checked = 0;
 
-    static {
-        for (Method method : BackIndex.class.getMethods()) {
-            if (method.getDeclaringClass() == BackIndex.class) {
-                METHODS.put(method.getName(), method);
-            }
-        }
-    }
-
     private final String title;
-    private final List<String> made = new ArrayList<>();
+    private final List<Call> made = new ArrayList<>();
     private final BackIndex object = new BackIndex();
 
     private Calls(String title) {
@@ -68,6 +63,11 @@ final class Calls {
         }
     }
 
+    /** Whether a refused call (by its name) with such an answer has been looked at. */
+    static boolean hasRefused(String name, String due) {
+        return refusals.contains(name + " " + due);
+    }
+
     /** Ends the test: with exit code 1 if anything was wrong. */
     static void end() {
         System.out.println(checked + " checks, " + wrong + " wrong");
@@ -85,6 +85,11 @@ final class Calls {
         switch (word) {
             case "REFUSED" -> refused(rest, due);
             case "FILL" -> fill(Integer.parseInt(rest));
+            case "HEADS" -> heads(Integer.parseInt(rest));
+            case "COUNT" -> {
+                int times = Integer.parseInt(rest.substring(0, rest.indexOf(' ')));
+                count(rest.substring(rest.indexOf(' ') + 1), times, Integer.parseInt(due));
+            }
             case "NAME" -> name(rest);
             case "HEAD" -> { name(rest); answer("head()", due); }
             case "PASS" -> { name(rest); answer("pass()", due); }
@@ -110,154 +115,66 @@ final class Calls {
 
     private void answer(String call, String due) {
         int got = call(call);
-        int want = ANSWERS.containsKey(due) ? ANSWERS.get(due) : Integer.parseInt(due);
-        check(got == want, title + ": " + call + " answered " + got + ", due is " + due);
+        check(got == numberOf(due), title + ": " + call + " answered " + got + ", due is " + due);
     }
 
-    private int call(String call) {
+    private static int numberOf(String due) {
+        return ANSWERS.containsKey(due) ? ANSWERS.get(due) : Integer.parseInt(due);
+    }
+
+    private int call(String text) {
+        Call call = Call.of(text);
         made.add(call);
-        return call(object, call);
-    }
-
-    private static int call(BackIndex object, String call) {
-        int bracket = call.indexOf('(');
-        Method method = METHODS.get(call.substring(0, bracket));
-        String inner = call.substring(bracket + 1, call.lastIndexOf(')')).trim();
-        String[] texts = inner.isEmpty() ? new String[0] : inner.split(" *, *");
-        Class<?>[] types = method.getParameterTypes();
-        Object[] values = new Object[types.length];
-        if (texts.length != types.length) {
-            throw new IllegalArgumentException(call);
-        }
-        for (int k = 0; k < types.length; k++) {
-            values[k] = value(types[k], texts[k]);
-        }
-        try {
-            return (Integer) method.invoke(object, values);
-        } catch (IllegalAccessException | InvocationTargetException e) {
-            throw new IllegalStateException(call, e);
-        }
-    }
-
-    private static Object value(Class<?> type, String text) {
-        if (type == boolean.class) {
-            return Boolean.valueOf(text);
-        }
-        if (type == long.class) {
-            return Long.valueOf(text);
-        }
-        return switch (text) {
-            case "NONE" -> -9;
-            case "LEAST" -> Integer.MIN_VALUE;
-            case "MOST" -> Integer.MAX_VALUE;
-            default -> Integer.valueOf(text);
-        };
+        return call.on(object);
     }
 
     /** The call is made on one of two objects that are alike otherwise, and both are looked at then. */
-    private void refused(String call, String due) {
-        BackIndex without = again();
-        BackIndex with = again();
-        call(with, call);
-        String method = call.substring(0, call.indexOf('('));
-        check(NAMES_FAULTS.contains(method) || without.fault() == with.fault(), title + ": " + call + " changed fault()");
-        List<Integer> before = look(without);
-        List<Integer> after = look(with);
-        check(before.equals(after), title + ": " + call + " changed something: " + before + " became " + after);
-        answer(call, due);
+    private void refused(String text, String due) {
+        Call call = Call.of(text);
+        List<Call> with = new ArrayList<>(made);
+        with.add(call);
+        int acts = (MOST_CALLS - with.size()) / 10;
+        List<String> before = View.of(made, acts);
+        List<String> after = View.of(with, acts);
+        check(before.equals(after), title + ": " + text + " changed something: " + unlike(before, after));
+        for (int k = 0; k < AHEAD.length; k++) {
+            faultBehind(call, due, AHEAD[k], AHEAD_FAULTS[k]);
+        }
+        answer(text, due);
+        refusals.add(call.method().getName() + " " + due);
     }
 
-    private BackIndex again() {
-        BackIndex fresh = new BackIndex();
-        for (String each : made) {
-            call(fresh, each);
-        }
-        return fresh;
-    }
-
-    /** All that can be seen of an object; it is of no use behind this. */
-    static List<Integer> look(BackIndex x) {
-        List<Integer> seen = new ArrayList<>();
-        for (int what = 0; what <= 8; what++) {
-            seen.add(x.told(what));
-        }
-        seen.add(x.trace());
-        lookAtBook(x, seen);
-        lookAtMarks(x, seen);
-        lookAtIndex(x, seen);
-        for (int kind = 0; kind <= 2; kind++) {
-            seen.add(x.taken(kind));
-        }
-        lookAtName(x, seen);
-        seen.add(x.flow(10));
-        seen.add(x.undo());
-        seen.add(x.undo());
-        lookAtBook(x, seen);
-        lookAtMarks(x, seen);
-        return seen;
-    }
-
-    private static void lookAtBook(BackIndex x, List<Integer> seen) {
-        for (int i = 0; i < x.told(0); i++) {
-            seen.add(x.word(i));
-        }
-        for (int page = 0; page < x.told(1); page++) {
-            for (int i = 0; i < x.label(page); i++) {
-                seen.add(x.labelSign(page, i));
+    private static String unlike(List<String> before, List<String> after) {
+        for (int k = 0; k < Math.min(before.size(), after.size()); k++) {
+            if (!before.get(k).equals(after.get(k))) {
+                return before.get(k) + " became " + after.get(k);
             }
+        }
+        return before.size() + " answers became " + after.size();
+    }
+
+    /** Whatever fault() told ahead of a refused call: one that names faults leaves its own or 0, another leaves it. */
+    private void faultBehind(Call call, String due, String ahead, int aheadFault) {
+        BackIndex fresh = View.behind(made);
+        Call.of(ahead).on(fresh);
+        call.on(fresh);
+        int own = numberOf(due) <= -11 ? -10 - numberOf(due) : 0;
+        int want = NAMES_FAULTS.contains(call.method().getName()) ? own : aheadFault;
+        int got = fresh.fault();
+        check(got == want, title + ": fault() behind " + ahead + ", " + call.text() + " is " + got + ", due is " + want);
+    }
+
+    private void count(String text, int times, int first) {
+        for (int k = 0; k < times; k++) {
+            answer(text, String.valueOf(first + k));
         }
     }
 
-    private static void lookAtMarks(BackIndex x, List<Integer> seen) {
-        for (int head = 0; head < 30; head++) {
-            for (int i = 0; i < x.about(head, 0); i++) {
-                seen.add(x.sign(head, 0, i));
-            }
-            for (int i = 0; i < x.about(head, 1); i++) {
-                seen.add(x.sign(head, 1, i));
-            }
-            seen.add(x.compare(head, 0, 0));
-        }
-        for (int mark = 0; mark < 50; mark++) {
-            for (int what = 0; what <= 6; what++) {
-                seen.add(x.marked(mark, what));
-            }
-        }
-    }
-
-    private static void lookAtIndex(BackIndex x, List<Integer> seen) {
-        for (int e = 0; e < x.told(5); e++) {
-            for (int what = 0; what <= 6; what++) {
-                seen.add(x.entry(e, what));
-            }
-            for (int i = 0; i < x.entry(e, 3); i++) {
-                for (int what = 0; what <= 3; what++) {
-                    seen.add(x.place(e, i, what));
-                }
-            }
-            for (int i = 0; i < x.entry(e, 5); i++) {
-                for (int what = 0; what <= 2; what++) {
-                    seen.add(x.sees(e, i, what));
-                }
-            }
-        }
-        for (int i = 0; i < x.unmatched(); i++) {
-            seen.add(x.unmatchedAt(i));
-        }
-        seen.add(x.changed());
-    }
-
-    /** THE NAME can only be seen as a head's, so it becomes one's. */
-    private static void lookAtName(BackIndex x, List<Integer> seen) {
-        for (int head = 0; head < 30; head++) {
-            if (x.about(head, 0) > 0) {
-                seen.add(x.sortAs(head));
-                for (int i = 0; i < x.about(head, 1); i++) {
-                    seen.add(x.sign(head, 1, i));
-                }
-                x.undo();
-                return;
-            }
+    /** Heads a, b, c .. z, and then z26, z27 .. so that they are in the order of their numbers. */
+    private void heads(int count) {
+        for (int h = 0; h < count; h++) {
+            name(h < 26 ? String.valueOf((char) ('a' + h)) : "z" + h);
+            answer("head()", String.valueOf(h));
         }
     }
 
