@@ -224,6 +224,10 @@ public final class BookEdgeTest {
                 "FILL 300", "flow(1) = 10", "labelled(1, 300, 0) = 299", "labelled(1, 301, 0) = NONE", "part(0, 0, 999, 0) = 1",
                 "labelled(0, 1298, 0) = 299", "labelled(0, 1299, 0) = NONE", "labelled(0, 999, 0) = 0", "labelled(0, 998, 0) = NONE",
                 "labelled(1, 1, 0) = NONE", "part(299, 0, 999, 0) = 2", "labelled(0, 999, 0) = 0", "labelled(0, 1298, 0) = NONE");
+        Edges.of(10, words,
+                "FILL 20", "part(0, 0, 4, 70) = 1", "part(1, 1, 4, 71) = 2", "labelled(0, 4, 70) = 0", "labelled(0, 4, 71) = 0",
+                "labelled(0, 4, 0) = 0", "labelled(1, 4, 70) = 1", "labelled(1, 4, LEAST) = 1", "part(1, 2, 4, 71) = 2", "labelled(2, 4, 71) = 1",
+                "labelled(2, 4, 70) = NONE");
         Edges.of(10, "OUTSIDE: form.",
                 "REFUSED labelled(-1, 1, 0) = OUTSIDE", "REFUSED labelled(3, 1, 0) = OUTSIDE", "REFUSED labelled(LEAST, 1, 65) = OUTSIDE",
                 "REFUSED labelled(MOST, 1, 65) = OUTSIDE", "REFUSED labelled(3, 0, 0) = OUTSIDE", "labelled(0, 1, 0) = NONE",

@@ -10,19 +10,23 @@ public final class IndexEdgeTest {
     public static void main(String[] args) throws IOException {
         build();
         buildStays();
+        builtAnew();
         buildOutside();
         entry();
         place();
         sees();
         find();
         first();
+        firstSorted();
         firstRefused();
         unmatched();
         unmatchedAt();
         led();
+        allSees();
         changed();
         changedPlaces();
         changedSees();
+        changedLast();
         shorten();
         shortenOutside();
         unfold();
@@ -66,6 +70,22 @@ public final class IndexEdgeTest {
                 "PATHS = 0 1 2", "PLACES 0 = R3-3 R5-5", "SEES 1 = see2/good", "PLACES 2 = M6", "UNMATCHED = 1", "led(0) = 1", "led(1) = 0",
                 "changed() = 3", "NAME b", "first() = 1", "NAME zz", "first() = NONE", "build(0, 0, 0) = 2", "PATHS = 4 1",
                 "changed() = 4", "first() = 1");
+    }
+
+    /** What was built before leaves nothing in what is built anew, however much less that is. */
+    private static void builtAnew() {
+        String words = "till it is built anew.";
+        of(27, words, "mark(2, 0, 0, 1, 2, 0) = 0", Edges.on(0, 1, 3, 1), "see(0, 4, 5, true) = 2", "build(0, 0, 0) = 5", "build(0, 0, 0) = 5",
+                "drop(0) = 1", "drop(1) = 1", "drop(2) = 1", "build(0, 0, 0) = 0", "build(0, 0, 0) = 0", "find(0, NONE, NONE) = NONE",
+                "find(3, NONE, NONE) = NONE", "NAME a", "first() = NONE", "NAME d", "first() = NONE", "entry(0, 0) = UNKNOWN",
+                "unmatched() = 0", "unmatchedAt(0) = UNKNOWN", "led(0) = 0", "led(1) = 0", "led(2) = 0", "changed() = 0");
+        of(27, words, "mark(2, 0, 0, 1, NONE, 0) = 0", "see(0, 0, 2, false) = 1", "build(0, 0, 0) = 2", "build(0, 0, 0) = 2", "SEES 0 = also2/lost",
+                "drop(0) = 1", "build(0, 0, 0) = 1", "build(0, 0, 0) = 1", "entry(0, 4) = 0", "SEES 0 = see2/lost", "find(0, 1, NONE) = NONE");
+        of(27, words, Edges.on(0, 0, 0, 0), "see(0, 1, 2, false) = 1", Edges.on(3, 3, 2, 2), "build(0, 0, 0) = 3", "build(0, 0, 0) = 3",
+                "drop(0) = 1", "build(0, 0, 0) = 2", "build(0, 0, 0) = 2", "PATHS = 1 2", "SEES 0 = see2/good", "led(0) = 1", "PLACES 0 = ",
+                "PLACES 1 = M3", "NAME c", "first() = 1", "drop(2) = 1", "build(0, 0, 0) = 1", "build(0, 0, 0) = 1", "led(0) = 0", "led(1) = 1");
+        of(27, words, Edges.on(0, 5, 5, 0), "see(0, 0, 5, false) = 1", "see(0, 5, 0, false) = 2", "build(0, 0, 0) = 2", "build(0, 0, 0) = 2",
+                "drop(2) = 1", "drop(0) = 1", "build(0, 0, 0) = 1", "build(0, 0, 0) = 1", "PATHS = 0", "SEES 0 = see5/lost", "led(1) = 1", "led(0) = 0");
     }
 
     private static void buildOutside() {
@@ -196,6 +216,13 @@ public final class IndexEdgeTest {
                 "first() = 1", "meld(1, 0) = 1", "first() = 1", "build(0, 0, 0) = 1", "first() = NONE");
     }
 
+    private static void firstSorted() {
+        Edges.of(32, "whose signs by which it was sorted (as THE INDEX was built) begin with THE NAME",
+                "HEADS 30", "SORT 0 q", "SORT 29 qq", "mark(0, 0, 0, NONE, NONE, 0) = 0", "mark(0, 0, 29, NONE, NONE, 0) = 1", "build(0, 0, 0) = 2",
+                "PATHS = 0 29", "NAME Q", "first() = 0", "NAME QQ", "first() = 1", "NAME a", "first() = NONE", "NAME z", "first() = NONE",
+                "unname() = 1", "sortAs(0) = 1", "NAME q", "first() = 0", "build(0, 0, 0) = 2", "first() = 1", "NAME a", "first() = 0");
+    }
+
     private static void firstRefused() {
         Edges.of(32, "STATE: THE NAME has nothing.",
                 "REFUSED first() = STATE", "HEAD a = 0", "mark(0, 0, 0, NONE, NONE, 0) = 0", "build(0, 0, 0) = 1", "first() = 0",
@@ -236,6 +263,18 @@ public final class IndexEdgeTest {
                 "see(0, 0, 1, false) = 0", "build(0, 0, 0) = 1", "REFUSED led(3) = OUTSIDE", "REFUSED led(-1) = OUTSIDE");
     }
 
+    /** 50 sees that are unlike all. */
+    private static void allSees() {
+        List<String> lines = new ArrayList<>(List.of("HEADS 30"));
+        for (int m = 0; m < 50; m++) {
+            lines.add("see(0, " + m / 25 + ", " + (29 - m % 25) + ", " + (m % 2 == 0) + ") = " + m);
+        }
+        lines.addAll(List.of("build(0, 0, 0) = 2", "entry(0, 5) = 25", "entry(1, 5) = 25", "sees(0, 24, 0) = 29", "sees(0, 25, 0) = UNKNOWN",
+                "sees(1, 0, 0) = 5", "sees(1, 0, 1) = 0", "sees(1, 24, 0) = 28", "sees(1, 24, 1) = 1", "sees(1, 25, 0) = UNKNOWN", "led(0) = 0",
+                "led(1) = 50", "led(2) = 0", "changed() = 2", "build(0, 0, 0) = 2", "changed() = 0"));
+        Edges.of(35, "How many SEES, ALSOS of THE INDEX are GOOD (0), LOST (1), ROUND (2).", lines.toArray(new String[0]));
+    }
+
     private static void changed() {
         String words = "How many ENTRIES of THE INDEX as it was built ahead of this (nothing ahead of the first) and of this one became other ones:"
                 + " of PATHS that just one has";
@@ -260,6 +299,18 @@ public final class IndexEdgeTest {
                 "changed() = 1", Edges.on(6, 2, 0, 5), "build(0, 0, 0) = 1", "changed() = 1", "drop(4) = 1", Edges.on(3, 1, 0, 6),
                 "build(0, 0, 0) = 1", "PLACES 0 = R3-6", "changed() = 1", "drop(6) = 1", "drop(5) = 1", "see(0, 0, 1, true) = 7",
                 "build(0, 0, 0) = 1", "changed() = 1", "drop(7) = 1", Edges.on(3, 0, 0, 8), "build(0, 0, 0) = 1", "changed() = 1");
+    }
+
+    /** What is not alike is the last of several, or is there no more. */
+    private static void changedLast() {
+        String words = "or whose PLACES (or their order) or SEES (but for what is GOOD) are not alike in both.";
+        of(36, words, Edges.on(1, 0, 0, 0), Edges.on(3, 0, 0, 1), "build(0, 0, 0) = 1", "drop(1) = 1", "build(0, 0, 0) = 1", "changed() = 1",
+                "undo() = 39", "build(0, 0, 0) = 1", "changed() = 1", Edges.on(3, 3, 0, 2), "build(0, 0, 0) = 1", "changed() = 1", "drop(2) = 1",
+                "drop(1) = 1", Edges.on(4, 0, 0, 3), "build(0, 0, 0) = 1", "changed() = 1", "PLACES 0 = R1-1 R4-4");
+        of(36, words, "see(0, 0, 1, false) = 0", "see(0, 2, 1, false) = 1", "see(0, 2, 3, false) = 2", "build(0, 0, 0) = 2", "drop(2) = 1",
+                "build(0, 0, 0) = 2", "changed() = 1", "undo() = 39", "build(0, 0, 0) = 2", "changed() = 1", "drop(2) = 1", "see(0, 2, 4, false) = 3",
+                "build(0, 0, 0) = 2", "changed() = 1", "SEES 1 = see1/lost see4/lost", "drop(3) = 1", "see(0, 2, 4, true) = 4",
+                "build(0, 0, 0) = 2", "changed() = 1", "SEES 1 = see1/lost also4/lost", "build(0, 0, 0) = 2", "changed() = 0");
     }
 
     private static void changedSees() {

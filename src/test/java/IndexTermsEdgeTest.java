@@ -109,6 +109,9 @@ public final class IndexTermsEdgeTest {
         of(words, Edges.on(1, 1, 0, 0), "build(0, 0, 0) = 1", "UNMATCHED = 0", "PLACES 0 = R1-1", "drop(0) = 1", Edges.on(1, 2, 0, 1),
                 "build(0, 0, 0) = 1", "UNMATCHED = 1", "PLACES 0 = R1-1", Edges.on(5, 1, 0, 2), "build(0, 0, 0) = 1", "UNMATCHED = 1 2",
                 "PLACES 0 = R1-1 R5-5", Edges.on(1, 3, 0, 3), "build(0, 0, 0) = 1", "PLACES 0 = M1 R5-5", "UNMATCHED = 1 2");
+        of(words, Edges.on(2, 1, 0, 0), Edges.on(4, 0, 0, 1), Edges.on(5, 0, 0, 2), Edges.on(6, 1, 0, 3), Edges.on(7, 0, 0, 4), Edges.on(8, 2, 0, 5),
+                Edges.on(9, 1, 0, 6), Edges.on(10, 0, 0, 7), Edges.on(11, 0, 0, 8), "build(0, 0, 0) = 1",
+                "PLACES 0 = R2-2 R4-4 R5-5 R6-8 R9-9 R10-10 R11-11", "UNMATCHED = 0 6");
         of(words, Edges.on(1, 1, 0, 0), Edges.on(2, 1, 0, 1), Edges.on(3, 1, 0, 2), Edges.on(4, 2, 0, 3), Edges.on(5, 2, 0, 4),
                 Edges.on(6, 2, 0, 5), "build(0, 0, 0) = 1", "PLACES 0 = R1-1 R2-2 R3-4 R5-5 R6-6", "UNMATCHED = 0 1 4 5");
     }
@@ -138,6 +141,9 @@ public final class IndexTermsEdgeTest {
                 "PLACES 0 = R1-1 M2 R3-3", "drop(3) = 1", "build(0, 0, 0) = 1", "PLACES 0 = R1-1 R2-2 R3-3", Edges.on(2, 5, 0, 4),
                 Edges.noteOn(2, 5, 0, 5), Edges.on(2, 3, 1, 6), "mark(6, 3, 0, 1, NONE, 0) = 7", "build(0, 0, 0) = 3",
                 "PLACES 0 = R1-1 R2-2 P2 N2/5 R3-3");
+        of(words, Edges.on(0, 5, 0, 0), Edges.on(5, 3, 1, 1), Edges.on(5, 0, 1, 2), Edges.on(6, 0, 1, 3), Edges.on(7, 5, 1, 4),
+                Edges.on(8, 3, 1, 5), Edges.on(8, 0, 1, 6), Edges.on(5, 0, 2, 7), Edges.on(8, 5, 2, 8), "build(0, 0, 0) = 3", "PLACES 0 = P0",
+                "PLACES 1 = M5 R6-6 P7 M8", "PLACES 2 = R5-5 P8", "build(0, 0, 1) = 3", "PLACES 1 = M5 M8 R6-6 P7");
         of(words, Edges.on(4, 1, 0, 0), Edges.on(5, 2, 0, 1), Edges.on(4, 3, 0, 2), Edges.on(5, 3, 0, 3), "build(0, 0, 0) = 1",
                 "PLACES 0 = M4 R4-5 M5", "mark(14, 1, 0, NONE, NONE, 0) = 4", "mark(14, 2, 0, NONE, NONE, 0) = 5", "build(0, 0, 0) = 1",
                 "PLACES 0 = M4 R4-5 M5 R6-6", Edges.on(6, 3, 0, 6), "build(0, 0, 0) = 1", "PLACES 0 = M4 R4-5 M5 M6");
@@ -177,6 +183,10 @@ public final class IndexTermsEdgeTest {
         of(words, Edges.noteOn(3, 99, 0, 0), Edges.noteOn(3, 1, 0, 1), Edges.on(3, 5, 0, 2), Edges.on(3, 1, 0, 3), Edges.on(3, 3, 0, 4),
                 Edges.on(4, 2, 0, 5), Edges.noteOn(2, 50, 0, 6), Edges.on(4, 3, 0, 7), "build(0, 0, 0) = 1",
                 "PLACES 0 = N2/50 M3 R3-4 P3 N3/1 N3/99 M4");
+        of(words, Edges.noteOn(0, 50, 0, 0), Edges.noteOn(1, 5, 0, 1), Edges.noteOn(1, 9, 0, 2), Edges.noteOn(2, 9, 0, 3), Edges.noteOn(2, 5, 0, 4),
+                Edges.noteOn(3, 98, 0, 5), Edges.noteOn(3, 99, 0, 6), Edges.noteOn(3, 97, 0, 7), Edges.noteOn(0, 51, 1, 8),
+                Edges.noteOn(0, 49, 1, 9), Edges.noteOn(0, 50, 1, 10), "build(0, 0, 0) = 2",
+                "PLACES 0 = N0/50 N1/5 N1/9 N2/5 N2/9 N3/97 N3/98 N3/99", "PLACES 1 = N0/49 N0/50 N0/51");
         of(words, Edges.on(0, 5, 0, 0), Edges.on(29, 3, 0, 1), Edges.on(0, 0, 0, 2), Edges.noteOn(28, 99, 0, 3), "build(0, 0, 0) = 1",
                 "PLACES 0 = R0-0 P0 N28/99 M29");
     }

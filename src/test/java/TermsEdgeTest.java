@@ -30,6 +30,7 @@ public final class TermsEdgeTest {
         wordPut();
         wordTaken();
         wordsMoved();
+        allMarksWithWords();
         bodies();
         Edges.end(args, 0, 0);
     }
@@ -339,6 +340,18 @@ public final class TermsEdgeTest {
                 "GAPS = 0 1 2 3 4", "move(2, 2, 0) = 2", "GAPS = 0 3 4 1 2", "move(1, 0, 3) = 0", "GAPS = 0 3 4 1 2", "WORDS = 2 3 0 1");
         of(words, "HEAD a = 0", "FILL 300", Edges.point(300, 0, 0), Edges.point(1, 0, 1), Edges.point(0, 0, 2), Edges.point(150, 0, 3),
                 "move(299, 1, 0) = 1", "GAPS = 1 2 0 151", "move(0, 299, 1) = 299", "GAPS = 2 3 0 152");
+    }
+
+    private static void allMarksWithWords() {
+        of("MARKS at GAPS behind that place go one on; those at it stay.", "HEAD a = 0", "FILL 4", "COUNT 49 mark(2, 0, 0, NONE, NONE, 0) = 0",
+                "mark(3, 0, 0, NONE, NONE, 0) = 49", "put(2, 9) = 5", "marked(0, 1) = 2", "marked(48, 1) = 2", "marked(49, 1) = 4", "put(0, 9) = 6",
+                "marked(0, 1) = 3", "marked(49, 1) = 5", "told(4) = 50");
+        of("MARKS at GAPS behind it go one back", "HEAD a = 0", "FILL 4", "COUNT 49 mark(2, 0, 0, NONE, NONE, 0) = 0",
+                "mark(3, 0, 0, NONE, NONE, 0) = 49", "take(2) = 2", "marked(0, 1) = 2", "marked(48, 1) = 2", "marked(49, 1) = 2", "take(0) = 0",
+                "marked(0, 1) = 1", "marked(49, 1) = 1", "told(4) = 50");
+        of("Words that are moved take with them MARKS at the GAPS just behind each of them.", "HEAD a = 0", "FILL 4",
+                "COUNT 49 mark(2, 0, 0, NONE, NONE, 0) = 0", "mark(3, 0, 0, NONE, NONE, 0) = 49", "move(1, 1, 3) = 1", "marked(0, 1) = 4",
+                "marked(48, 1) = 4", "marked(49, 1) = 2", "move(1, 1, 0) = 1", "marked(49, 1) = 1", "marked(0, 1) = 4", "told(4) = 50");
     }
 
     private static void bodies() {
