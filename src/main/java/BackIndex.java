@@ -839,7 +839,9 @@ public final class BackIndex {
         private void copyFrom(Heads from) {
             own.copyAll(from.own);
             sorted.copyAll(from.sorted);
-            System.arraycopy(from.gone, 0, gone, 0, MOST_HEADS);
+            for (int h = 0; h < MOST_HEADS; h++) {
+                gone[h] = from.gone[h];
+            }
             ever = from.ever;
         }
     }
@@ -952,7 +954,9 @@ public final class BackIndex {
             System.arraycopy(from.gaps, 0, gaps, 0, MOST_MARKS);
             System.arraycopy(from.paths, 0, paths, 0, MOST_MARKS);
             System.arraycopy(from.notes, 0, notes, 0, MOST_MARKS);
-            System.arraycopy(from.gone, 0, gone, 0, MOST_MARKS);
+            for (int m = 0; m < MOST_MARKS; m++) {
+                gone[m] = from.gone[m];
+            }
             ever = from.ever;
         }
     }
