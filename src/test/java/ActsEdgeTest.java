@@ -117,6 +117,10 @@ public final class ActsEdgeTest {
     }
 
     private static void taken() {
+        Edges.of(41, "What THE TRAY has, taken as a kind 0 .. 2: its number.",
+                "HEADS 2", "COUNT 2 mark(0, 0, 0, NONE, NONE, 0) = 0", "FILL 11", "tray(0, 0) = 1", "taken(0) = 0", "tray(0, 1) = 1", "taken(0) = 1",
+                "taken(0) = 1", "tray(1, 0) = 1", "taken(1) = 0", "tray(1, 1) = 1", "taken(1) = 1", "tray(2, 0) = 1", "taken(2) = 0",
+                "tray(2, 1) = 1", "taken(2) = 1", "fault() = 0", "told(8) = 15");
         Edges.of(41, "(What was put there stays, though it may be gone since.)",
                 "HEADS 2", "mark(0, 0, 0, NONE, NONE, 0) = 0", "FILL 11", "tray(0, 1) = 1", "meld(1, 0) = 0", "taken(0) = 1", "tray(1, 0) = 1",
                 "drop(0) = 1", "taken(1) = 0", "taken(1) = 0", "tray(2, 1) = 1", "take(0) = 0", "taken(2) = 1", "undo() = 16", "undo() = 15",

@@ -130,6 +130,9 @@ public final class HeadEdgeTest {
                 "PASS a = 1", "PASS z = 2", "PASS abcdefghijklmnop = 3", "NAME A", "REFUSED pass() = STATE", "NAME Z",
                 "REFUSED pass() = STATE", "NAME ABCDEFGHIJKLMNOP", "REFUSED pass() = STATE", "PASS ABCDEFGHIJKLMNO = 4",
                 "told(8) = 0", "undo() = STATE");
+        Edges.of(15, "THE NAME is one of THE TERMS PASSED: how many there are.",
+                "HEAD a z = 0", "HEAD y = 1", "told(7) = 0", "PASS b = 1", "compare(0, 1, 0) = -101", "PASS A = 2", "told(6) = 1", "told(7) = 2",
+                "compare(0, 1, 0) = -99", "unname() = 1", "compare(0, 1, 0) = -99", "PASS abcdefghijklmnop = 3", "PASS z = 4", "told(7) = 4");
         Edges.of(15, "FULL.",
                 "PASS a = 1", "PASS b = 2", "PASS c = 3", "PASS d = 4", "NAME e", "REFUSED pass() = FULL", "told(7) = 4", "NAME D",
                 "REFUSED pass() = STATE", "NAME 1", "REFUSED pass() = STATE", "unname() = 1", "REFUSED pass() = STATE",

@@ -234,6 +234,9 @@ public final class TermsEdgeTest {
     }
 
     private static void keyBits() {
+        of("from the signs by which it is sorted (its own, if none are told)", "HEAD m = 0", "HEAD n = 1", "compare(0, 1, 0) = -101", "SORT 0 o",
+                "compare(0, 1, 0) = -99", "unname() = 1", "sortAs(0) = 1", "compare(0, 1, 0) = -101", "NAME o", "rename(0) = 1",
+                "compare(0, 1, 0) = -99", "SORT 0 m", "compare(0, 1, 0) = -101");
         of("a row of digits (as long as can be): a number", "HEAD a12b = 0", "HEAD a9c = 1", "HEAD a12 = 2", "HEAD a120 = 3", "HEAD 1a2 = 4",
                 "HEAD 1a10 = 5", "HEAD 12 = 6", "compare(0, 1, 0) = -99", "compare(2, 0, 0) = -101", "compare(0, 3, 0) = -101",
                 "compare(4, 5, 0) = -101", "compare(4, 6, 0) = -101", "compare(6, 5, 1) = -99");
@@ -356,6 +359,9 @@ public final class TermsEdgeTest {
 
     private static void bodies() {
         of("(an int that wraps, 0 at first, becomes 31 times it and the number)", wrapping());
+        of("by bodies that leave their number in TRACE", "HEADS 2", "mark(0, 3, 0, NONE, NONE, 0) = 0", "trace() = 0", "marked(0, 0) = 3",
+                "tell(1) = UNKNOWN", "trace() = 0", "tell(0) = 10", "trace() = " + (2 * 31 + 1), "see(0, 0, 1, true) = 1", "show(1) = CAST",
+                "trace() = 63", "tell(1) = 6", "trace() = " + ((63 * 31 + 5) * 31 + 4));
         of("POINT (1): 1; OPEN, CLOSE none of their own: POINT's", "HEAD a = 0", Edges.point(0, 0, 0), "mark(0, 1, 0, NONE, NONE, 0) = 1",
                 "mark(0, 2, 0, NONE, NONE, 0) = 2", "tell(0) = 1", "trace() = 1", "tell(1) = 1", "trace() = 32", "tell(2) = 1", "trace() = 993");
         of("MAIN (2): ten times what POINT's gives", "HEAD a = 0", "mark(0, 3, 0, NONE, NONE, 0) = 0", "tell(0) = 10", "trace() = 63");
