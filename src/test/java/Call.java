@@ -1,11 +1,12 @@
 import java.lang.reflect.InvocationTargetException;
 import java.lang.reflect.Method;
-import java.util.HashMap;
+import java.util.List;
 import java.util.Map;
+import java.util.TreeMap;
 
 /** A call, read once from its text, that can be made on any object. */
 record Call(String text, Method method, Object[] values) {
-    private static final Map<String, Method> METHODS = new HashMap<>();
+    private static final Map<String, Method> METHODS = new TreeMap<>();
 
     static {
         for (Method method : BackIndex.class.getMethods()) {
@@ -13,6 +14,15 @@ record Call(String text, Method method, Object[] values) {
                 METHODS.put(method.getName(), method);
             }
         }
+    }
+
+    /** The names of all calls, in the order of the alphabet. */
+    static List<String> names() {
+        return List.copyOf(METHODS.keySet());
+    }
+
+    static Class<?>[] types(String name) {
+        return METHODS.get(name).getParameterTypes();
     }
 
     static Call of(String text) {

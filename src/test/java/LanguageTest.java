@@ -8,44 +8,27 @@ import java.nio.file.Path;
 import java.util.HashSet;
 import java.util.List;
 import java.util.Set;
-import java.util.TreeSet;
-import java.util.regex.Matcher;
 import java.util.regex.Pattern;
 
-/** The rules of LANGUAGE.md, as far as they can be seen from the class and from its text (the first argument). */
+/** The rules of LANGUAGE.md, as far as they can be seen from the class and its text (the first argument); CallTreeTest has those on calls. */
 public final class LanguageTest {
-    private static final String FACE = "about build changed compare drop entry fault find first flow head label labelSign labelled led "
-            + "mark marked match meld move name part pass place put rename see sees shorten show sign sortAs take taken tell told "
-            + "trace tray undo unfold unmatched unmatchedAt unname word";
-    private static final Set<String> LIBRARY = Set.of("System.arraycopy", "Math.max", "Math.min", "Integer.compare", "Long.compare");
-
     public static void main(String[] args) throws IOException {
         String text = Files.readString(Path.of(args.length > 0 ? args[0] : "src/main/java/BackIndex.java"));
-        face();
         classes();
         words(bare(text));
-        library(bare(text));
         lengths(bare(text));
         Calls.end();
     }
 
-    private static void face() {
-        Set<String> methods = new TreeSet<>();
+    /** The names of the public methods, which no other one bears. */
+    private static Set<String> face() {
+        Set<String> names = new HashSet<>();
         for (Method method : BackIndex.class.getDeclaredMethods()) {
             if (Modifier.isPublic(method.getModifiers())) {
-                methods.add(method.getName());
-                Calls.check(method.getReturnType() == int.class, method + " answers no int");
+                names.add(method.getName());
             }
         }
-        Calls.check(String.join(" ", methods).equals(FACE), "the public methods are not the document's: " + methods);
-        Set<String> fields = new TreeSet<>();
-        for (Field field : BackIndex.class.getFields()) {
-            fields.add(field.getName());
-            Calls.check(Modifier.isStatic(field.getModifiers()) && Modifier.isFinal(field.getModifiers()), field + " is no constant");
-        }
-        Calls.check(fields.toString().equals("[FULL, NONE, OUTSIDE, STATE, UNKNOWN]"), "the constants are " + fields);
-        Calls.check(BackIndex.class.getConstructors().length == 1, "there is not one constructor");
-        Calls.check(Modifier.isFinal(BackIndex.class.getModifiers()), "the class is not final");
+        return names;
     }
 
     private static void classes() {
@@ -60,7 +43,7 @@ public final class LanguageTest {
     }
 
     private static void members(Class<?> each) {
-        Set<String> face = new HashSet<>(List.of(FACE.split(" ")));
+        Set<String> face = face();
         int fields = 0;
         for (Field field : each.getDeclaredFields()) {
             isHidden(field);
@@ -102,18 +85,6 @@ public final class LanguageTest {
         }
         Calls.check(!Pattern.compile("new \\w+\\([^)]*\\)\\s*\\{").matcher(text).find(), "the text has a class without a name");
         Calls.check(!Pattern.compile("while \\(true\\)|for \\(;;\\)").matcher(text).find(), "the text has a loop without an end");
-    }
-
-    private static void library(String text) {
-        Matcher call = Pattern.compile("\\b([A-Z]\\w*\\.\\w+)\\(").matcher(text);
-        Set<String> own = new HashSet<>();
-        for (Class<?> each : BackIndex.class.getDeclaredClasses()) {
-            own.add(each.getSimpleName());
-        }
-        while (call.find()) {
-            boolean isOwn = own.contains(call.group(1).substring(0, call.group(1).indexOf('.')));
-            Calls.check(isOwn || LIBRARY.contains(call.group(1)), "the text calls " + call.group(1));
-        }
     }
 
     private static void lengths(String text) {
